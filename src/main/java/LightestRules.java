@@ -504,17 +504,15 @@ public final class LightestRules {
       return person >= 0 && person < size;
     }
 
-    private boolean hasCell(int person, int column) {
-      return has(person) && column >= 0 && column < COLUMNS;
-    }
-
     int get(int person, int column) {
-      return hasCell(person, column) ? cells[person * COLUMNS + column] : 0;
+      int at = person * COLUMNS + column;
+      return at >= 0 && at < DAY ? cells[at] : 0;
     }
 
     void add(int person, int column, int n) {
-      if (hasCell(person, column)) {
-        cells[person * COLUMNS + column] += n;
+      int at = person * COLUMNS + column;
+      if (at >= 0 && at < DAY) {
+        cells[at] += n;
       }
     }
 
