@@ -9,7 +9,7 @@ public final class LightestRules {
   private static final int LAWS = 3;
 
   private final LandText text;
-  private final People people;
+  private final People folk;
   private final ActRow acts;
   private final Slots slots;
   private final Weighings weighings;
@@ -21,7 +21,7 @@ public final class LightestRules {
 
   public LightestRules() {
     text = new LandText();
-    people = new People();
+    folk = new People();
     acts = new ActRow();
     slots = new Slots();
     weighings = new Weighings();
@@ -55,24 +55,24 @@ public final class LightestRules {
       return STATE;
     }
     lawNow = text.figure(1);
-    people.settle(text);
+    folk.settle(text);
     acts.clear();
     slots.clear();
-    return people.size();
+    return folk.size();
   }
 
   public int person(int person, int what) {
-    if (!people.has(person)) {
+    if (!folk.has(person)) {
       return UNKNOWN;
     }
     switch (what) {
-      case 0: return people.get(person, People.WEIGHT);
-      case 1: return people.get(person, People.LOAVES);
-      case 2: return people.get(person, People.STONES);
-      case 3: return people.get(person, People.DRUNK);
-      case 4: return people.noonWeight(person);
-      case 5: return people.isIll(person) ? 1 : 0;
-      case 6: return people.get(person, People.CROWNED);
+      case 0: return folk.get(person, People.WEIGHT);
+      case 1: return folk.get(person, People.LOAVES);
+      case 2: return folk.get(person, People.STONES);
+      case 3: return folk.get(person, People.DRUNK);
+      case 4: return folk.noonWeight(person);
+      case 5: return folk.isIll(person) ? 1 : 0;
+      case 6: return folk.get(person, People.CROWNED);
       default: return OUTSIDE;
     }
   }
@@ -97,12 +97,12 @@ public final class LightestRules {
     if (refusal != FINE) {
       return refusal;
     }
-    if (people.get(person, People.LOAVES) < n) {
+    if (folk.get(person, People.LOAVES) < n) {
       return STATE;
     }
-    acts.remember(people);
-    people.add(person, People.LOAVES, -n);
-    return people.gain(person, People.LOAF_OUNCES * n);
+    acts.remember(folk);
+    folk.add(person, People.LOAVES, -n);
+    return folk.gain(person, People.LOAF_OUNCES * n);
   }
 
   public int toil(int person, int n) {
@@ -110,8 +110,8 @@ public final class LightestRules {
     if (refusal != FINE) {
       return refusal;
     }
-    acts.remember(people);
-    return people.gain(person, -People.TOIL_OUNCES * n);
+    acts.remember(folk);
+    return folk.gain(person, -People.TOIL_OUNCES * n);
   }
 
   public int drink(int person, int n) {
@@ -120,54 +120,54 @@ public final class LightestRules {
       return refusal;
     }
     int ounces = People.DRINK_OUNCES * n;
-    if (people.get(person, People.DRUNK) + ounces > People.MOST_DRUNK) {
+    if (folk.get(person, People.DRUNK) + ounces > People.MOST_DRUNK) {
       return STATE;
     }
-    acts.remember(people);
-    people.add(person, People.DRUNK, ounces);
-    return people.gain(person, ounces);
+    acts.remember(folk);
+    folk.add(person, People.DRUNK, ounces);
+    return folk.gain(person, ounces);
   }
 
   /** Meals, toil and water are refused alike: no such person, then n beside 1 to 9. */
   private int refusalOf(int person, int n) {
-    if (!people.has(person)) {
+    if (!folk.has(person)) {
       return UNKNOWN;
     }
     return n < 1 || n > 9 ? OUTSIDE : FINE;
   }
 
   public int hand(int person, int other, boolean stone) {
-    if (!people.has(person) || !people.has(other)) {
+    if (!folk.has(person) || !folk.has(other)) {
       return UNKNOWN;
     }
     int thing = stone ? People.STONES : People.LOAVES;
-    if (person == other || people.get(person, thing) == 0) {
+    if (person == other || folk.get(person, thing) == 0) {
       return STATE;
     }
-    if (people.get(other, thing) >= People.POCKET) {
+    if (folk.get(other, thing) >= People.POCKET) {
       return FULL;
     }
-    acts.remember(people);
-    people.add(person, thing, -1);
-    people.add(other, thing, 1);
-    return people.get(other, thing);
+    acts.remember(folk);
+    folk.add(person, thing, -1);
+    folk.add(other, thing, 1);
+    return folk.get(other, thing);
   }
 
   public int day() {
-    acts.remember(people);
-    people.passDay();
-    return people.today();
+    acts.remember(folk);
+    folk.passDay();
+    return folk.today();
   }
 
   public int crown() {
-    return people.crownedBy(lawNow);
+    return folk.crownedBy(lawNow);
   }
 
   public int noon() {
-    int crowned = people.crownedBy(lawNow);
-    acts.remember(people);
+    int crowned = folk.crownedBy(lawNow);
+    acts.remember(folk);
     if (crowned != NONE) {
-      people.add(crowned, People.CROWNED, 1);
+      folk.add(crowned, People.CROWNED, 1);
     }
     return crowned;
   }
@@ -176,7 +176,7 @@ public final class LightestRules {
     if (acts.length() == 0) {
       return STATE;
     }
-    acts.takeBack(people);
+    acts.takeBack(folk);
     return acts.length();
   }
 
@@ -208,13 +208,13 @@ public final class LightestRules {
   }
 
   private int refusalOfSure(int person, int d, int x) {
-    if (!people.has(person)) {
+    if (!folk.has(person)) {
       return UNKNOWN;
     }
     if (d < 1 || d > 5 || x < 0 || x > 9) {
       return OUTSIDE;
     }
-    return people.size() == 1 ? STATE : FINE;
+    return folk.size() == 1 ? STATE : FINE;
   }
 
   /**
@@ -223,7 +223,7 @@ public final class LightestRules {
    */
   private int leastSureToil(int person, int d, int x) {
     for (int toil = 0; toil <= 9 * d; toil++) {
-      if (people.winsWith(person, toil, d, x)) {
+      if (folk.winsWith(person, toil, d, x)) {
         return toil;
       }
     }
@@ -236,7 +236,7 @@ public final class LightestRules {
   }
 
   public int feed(int person) {
-    return people.has(person) ? people.loavesToWin(person) : UNKNOWN;
+    return folk.has(person) ? folk.loavesToWin(person) : UNKNOWN;
   }
 
   // ---- found out
@@ -286,7 +286,7 @@ public final class LightestRules {
   }
 
   public int ruled(int person) {
-    if (!people.has(person)) {
+    if (!folk.has(person)) {
       return UNKNOWN;
     }
     return told.append(person) ? told.length() : FULL;
@@ -299,10 +299,10 @@ public final class LightestRules {
   }
 
   public long line() {
-    if (people.size() < 1 || people.size() > RulersLine.EATERS) {
+    if (folk.size() < 1 || folk.size() > RulersLine.EATERS) {
       return STATE;
     }
-    return told.fittingMeals(people);
+    return told.fittingMeals(folk);
   }
 
   // ---- years
@@ -312,10 +312,10 @@ public final class LightestRules {
   }
 
   public int reign(int person, int law) {
-    if (!people.has(person)) {
+    if (!folk.has(person)) {
       return UNKNOWN;
     }
-    return isLaw(law) ? year.monthsOf(person, law, people) : OUTSIDE;
+    return isLaw(law) ? year.monthsOf(person, law, folk) : OUTSIDE;
   }
 
   // ---- slots
@@ -324,8 +324,8 @@ public final class LightestRules {
     if (!Slots.isSlot(slot)) {
       return UNKNOWN;
     }
-    slots.put(slot, people);
-    return people.today();
+    slots.put(slot, folk);
+    return folk.today();
   }
 
   public int again(int slot) {
@@ -335,23 +335,23 @@ public final class LightestRules {
     if (!slots.holds(slot)) {
       return STATE;
     }
-    slots.bring(slot, people);
+    slots.bring(slot, folk);
     acts.clear();
-    return people.today();
+    return folk.today();
   }
 
   public int count(int what) {
     switch (what) {
       case 0: return text.length();
-      case 1: return people.size();
-      case 2: return people.today();
+      case 1: return folk.size();
+      case 2: return folk.today();
       case 3: return acts.length();
       case 4: return weighings.length();
       case 5: return searches.length();
       case 6: return told.length();
       case 7: return lawNow;
-      case 8: return people.illBits();
-      case 9: return people.crownings();
+      case 8: return folk.illBits();
+      case 9: return folk.crownings();
       default: return OUTSIDE;
     }
   }
