@@ -22,6 +22,10 @@ final class Checks {
     }
   }
 
+  static int wrong() {
+    return wrong;
+  }
+
   static void end(String test) {
     System.out.println(test + ": " + asked + " answers looked at, " + wrong + " not as due");
     if (wrong != 0) {
@@ -57,6 +61,26 @@ final class Checks {
     write(x, text);
     due("land of " + text, x.land(), (text.length() - 4) / 6);
     return x;
+  }
+
+  /** People of these weights, the light ones by toil, since a text tells none below 100. */
+  static LightestRules weighing(String head, String pockets, int... weights) {
+    StringBuilder text = new StringBuilder(head);
+    for (int weight : weights) {
+      text.append('P').append(weight + 5 * toilTo(weight)).append(pockets);
+    }
+    LightestRules x = land(text.toString());
+    for (int i = 0; i < weights.length; i++) {
+      for (int toil = toilTo(weights[i]); toil > 0; toil -= 9) {
+        x.toil(i, Math.min(9, toil));
+      }
+      due("weight of " + i, x.person(i, 0), weights[i]);
+    }
+    return x;
+  }
+
+  private static int toilTo(int weight) {
+    return weight >= 100 ? 0 : (104 - weight) / 5;
   }
 
   /** Everything of an object that can be asked for without changing it, but for the searching calls. */
