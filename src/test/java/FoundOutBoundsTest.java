@@ -464,6 +464,45 @@ public final class FoundOutBoundsTest {
     Checks.due("most", x.stones(1, true), 4);
   }
 
+  /** A start of a row that no row goes on from proves nothing: three by pairs leave one row, or none. */
+  static void stonesByThreePairs() {
+    LightestRules x = new LightestRules();
+    x.search(3, 9);
+    x.search(6, 9);
+    x.search(5, 8);
+    Checks.due("rows()", x.rows(), 100);
+    int[] due = {4, 5, 4};
+    for (int one = 0; one < 3; one++) {
+      Checks.due("least of " + one, x.stones(one, false), due[one]);
+      Checks.due("most of " + one, x.stones(one, true), due[one]);
+    }
+    Checks.due("one that is not searched", x.stones(4, true), 9);
+    LightestRules odd = new LightestRules();
+    odd.search(3, 9);
+    odd.search(6, 9);
+    odd.search(5, 9);
+    Checks.due("rows()", odd.rows(), 0);
+    Checks.due("least", odd.stones(0, false), Checks.NONE);
+    Checks.due("most of one that is not searched", odd.stones(4, true), Checks.NONE);
+  }
+
+  /** Asked between SEARCHES: narrower with each, as wide as at first when there are none. */
+  static void stonesAskedBetween() {
+    LightestRules x = new LightestRules();
+    Checks.due("most", x.stones(0, true), 9);
+    x.search(3, 5);
+    Checks.due("most", x.stones(0, true), 5);
+    Checks.due("least", x.stones(0, false), 0);
+    x.search(2, 3);
+    Checks.due("most", x.stones(0, true), 2);
+    Checks.due("least", x.stones(0, false), 2);
+    x.search(1, 3);
+    Checks.due("most", x.stones(0, true), Checks.NONE);
+    x.unsearch();
+    Checks.due("most", x.stones(0, true), 9);
+    Checks.due("least", x.stones(0, false), 0);
+  }
+
   // ---- promise 26: ruled
 
   /** "FULL: 4": the fourth comes, the fifth does not. */

@@ -23,7 +23,8 @@ public final class SlotsBoundsTest {
   static void keepInNoSlot() {
     for (int slot : NO_SLOT) {
       Twins.unchanged("keep(" + slot + ")", Twins::livedIn, x -> x.keep(slot), Checks.UNKNOWN);
-      Twins.unchanged("keep(" + slot + ") of nothing kept", () -> Checks.land("R015P20011"), x -> x.keep(slot), Checks.UNKNOWN);
+      Twins.unchanged("keep(" + slot + "), nothing is kept", () -> Checks.land("R015P20011"),
+          x -> x.keep(slot), Checks.UNKNOWN);
     }
   }
 
@@ -76,7 +77,8 @@ public final class SlotsBoundsTest {
   static void againOfNoSlot() {
     for (int slot : NO_SLOT) {
       Twins.unchanged("again(" + slot + ")", Twins::livedIn, x -> x.again(slot), Checks.UNKNOWN);
-      Twins.unchanged("again(" + slot + ") of nothing kept", () -> Checks.land("R015P20011"), x -> x.again(slot), Checks.UNKNOWN);
+      Twins.unchanged("again(" + slot + "), nothing is kept", () -> Checks.land("R015P20011"),
+          x -> x.again(slot), Checks.UNKNOWN);
     }
   }
 

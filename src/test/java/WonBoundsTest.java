@@ -276,7 +276,8 @@ public final class WonBoundsTest {
   static void sureAtOfOneAlone() {
     int[] days = {0, 1, -1, Integer.MAX_VALUE};
     for (int i : days) {
-      Twins.unchanged("sureAt(0, 1, 0, " + i + ")", () -> Checks.land("R000P50000"), x -> x.sureAt(0, 1, 0, i), Checks.STATE);
+      Twins.unchanged("sureAt(0, 1, 0, " + i + ")", () -> Checks.land("R000P50000"),
+          x -> x.sureAt(0, 1, 0, i), Checks.STATE);
     }
     Checks.due("d and alone", Checks.land("R000P50000").sureAt(0, 0, 0, 0), Checks.OUTSIDE);
     Checks.due("x and alone", Checks.land("R000P50000").sureAt(0, 1, 10, 0), Checks.OUTSIDE);
