@@ -29,11 +29,21 @@ public final class FaceTest {
     "static {", "Random", "System.out", "System.nano", "System.current", "Thread", "toString", "hashCode",
   };
 
+  /** Its indent, its head, its body up to the brace that stands below its start. */
+  private static final Pattern METHOD =
+      Pattern.compile("(?ms)^( {2}| {4})((?:[\\w\\[\\]]+ )*\\w+\\([^()]*\\)) \\{\n(.*?)^\\1\\}$");
+  private static final Pattern CONSTRUCTOR = Pattern.compile("(public )?[A-Z]\\w*\\(\\)");
+
   public static void main(String[] args) throws IOException {
     methods();
     others();
     nestedClasses();
-    bannedWords();
+    String source = Files.readString(SOURCE, StandardCharsets.UTF_8);
+    String code = source.replaceAll("(?s)/\\*.*?\\*/", " ").replaceAll("//[^\n]*", " ");
+    bannedWords(code);
+    knownImports(code);
+    plainSigns(source);
+    shortMethods(source);
     Checks.end("FaceTest");
   }
 
@@ -109,24 +119,52 @@ public final class FaceTest {
     }
   }
 
-  private static void bannedWords() throws IOException {
-    String source = Files.readString(SOURCE, StandardCharsets.UTF_8);
-    String code = source.replaceAll("(?s)/\\*.*?\\*/", " ").replaceAll("//[^\n]*", " ");
+  private static void bannedWords(String code) {
     for (String banned : BANNED) {
       boolean word = banned.chars().allMatch(Character::isLetter);
       String pattern = word ? "\\b" + banned + "\\b" : Pattern.quote(banned);
       Checks.due("'" + banned + "' in the source", Pattern.compile(pattern).matcher(code).find() ? 1 : 0, 0);
     }
+  }
+
+  private static void knownImports(String code) {
     Matcher imports = Pattern.compile("import ([^;]*);").matcher(code);
     while (imports.find()) {
       boolean known = Set.of("java.util.Arrays", "java.util.ArrayList", "java.util.List").contains(imports.group(1));
       Checks.due("import " + imports.group(1), known ? 1 : 0, 1);
     }
+  }
+
+  private static void plainSigns(String source) {
     for (int i = 0; i < source.length(); i++) {
       char sign = source.charAt(i);
       if (sign > 126 || sign < 32 && sign != '\n') {
         Checks.due("a sign of the source at " + i, sign, ' ');
       }
     }
+  }
+
+  /** Methods stay short, and only constructors make objects: so no run of calls can fill the room. */
+  private static void shortMethods(String source) {
+    Matcher methods = METHOD.matcher(source);
+    int seen = 0;
+    while (methods.find()) {
+      seen++;
+      String head = methods.group(2);
+      String body = methods.group(3);
+      Checks.due("'" + head + "' is short", body.lines().count() <= 60 ? 1 : 0, 1);
+      boolean constructor = CONSTRUCTOR.matcher(head).matches();
+      boolean makes = Pattern.compile("\\bnew\\b").matcher(body).find();
+      Checks.due("'" + head + "' makes an object", !constructor && makes ? 1 : 0, 0);
+    }
+    Checks.due("methods seen in the source", seen, methodsOf(LightestRules.class));
+  }
+
+  private static int methodsOf(Class<?> type) {
+    int methods = type.getDeclaredMethods().length + type.getDeclaredConstructors().length;
+    for (Class<?> one : type.getDeclaredClasses()) {
+      methods += methodsOf(one);
+    }
+    return methods;
   }
 }
